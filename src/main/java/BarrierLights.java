@@ -9,6 +9,7 @@ public final class BarrierLights {
     private static final int PHASES_OF_A_RING = 4;
     private static final int PHASES_OF_A_SIDE = 2;
     private static final int RINGS = 2;
+    private static final int SIDES = 2;
     private static final int INPUTS = 2;
     private static final int PLANS = 4;
     private static final int NUMBERS = 8;
@@ -16,7 +17,6 @@ public final class BarrierLights {
 
     private static final int SIDE_0_PHASES = 0x33;
     private static final int SIDE_1_PHASES = 0xCC;
-    private static final int PHASES_BEHIND_ANOTHER = 0xAA;
 
     private static final int MIN = 0;
     private static final int PASSAGE = 1;
@@ -30,7 +30,7 @@ public final class BarrierLights {
     private static final int MOST_OF_AN_ENTRY = 99;
     private static final int WRONG_SIDE = 64;
 
-    private static final int RECALL_ONCE = 1;
+    private static final int RECALL_TO_MIN = 1;
     private static final int RECALL_TO_MAX = 2;
     private static final int RECALL_TO_WALK = 3;
 
@@ -83,7 +83,7 @@ public final class BarrierLights {
         if (!controller.takeWrittenTable()) {
             throw new IllegalStateException("the table is wrong");
         }
-        return Integer.bitCount(controller.table.used());
+        return Integer.bitCount(controller.used);
     }
 
     public int place(int crossing) {
@@ -223,7 +223,7 @@ public final class BarrierLights {
     }
 
     private static int sideOf(int phase) {
-        return (bit(phase) & SIDE_0_PHASES) != 0 ? 0 : 1;
+        return phase / PHASES_OF_A_SIDE % SIDES;
     }
 
     private static int phasesOfSide(int side) {
@@ -232,7 +232,7 @@ public final class BarrierLights {
 
     /** Sets of phases are kept as bits; NONE is in no set. */
     private static int bit(int phase) {
-        return isPhase(phase) ? 1 << phase : 0;
+        return phase >= 0 && phase < PHASES ? 1 << phase : 0;
     }
 
     private static int wrap(int value, int cycle) {
@@ -243,7 +243,6 @@ public final class BarrierLights {
     private static final class Table {
         private final int[] entries = new int[PHASES * ENTRIES];
 
-        /** 0 where there is no such phase, so that NONE is a phase that isn't used. */
         int at(int phase, int what) {
             int index = phase * ENTRIES + what;
             return index >= 0 && index < entries.length ? entries[index] : 0;
@@ -268,7 +267,7 @@ public final class BarrierLights {
             int used = 0;
             for (int phase = 0; phase < PHASES; phase++) {
                 if (isUsed(phase)) {
-                    used |= 1 << phase;
+                    used |= bit(phase);
                 }
             }
             return used;
@@ -309,39 +308,35 @@ public final class BarrierLights {
         private static final int LONGEST = 100;
         private static final int FAILS = 60;
 
-        private final boolean[] on = new boolean[PHASES];
         private final int[] onTimes = new int[PHASES];
         private final float[] occupancies = new float[PHASES];
+        private int on = 0;
+        private int failed = 0;
 
         void turn(int phase, boolean isOn) {
-            if (isPhase(phase)) {
-                on[phase] = isOn;
-            }
+            on = isOn ? on | bit(phase) : on & ~bit(phase);
         }
 
         void pass() {
+            failed = 0;
             for (int phase = 0; phase < PHASES; phase++) {
-                occupancies[phase] = occupancies[phase] * 0.875f;
-                if (on[phase]) {
-                    onTimes[phase] = Math.min(onTimes[phase] + 1, LONGEST);
-                    occupancies[phase] = occupancies[phase] + 0.125f;
-                } else {
-                    onTimes[phase] = 0;
+                boolean isOn = (on & bit(phase)) != 0;
+                onTimes[phase] = isOn ? Math.min(onTimes[phase] + 1, LONGEST) : 0;
+                if (onTimes[phase] >= FAILS) {
+                    failed |= bit(phase);
                 }
+                float kept = occupancies[phase] * 0.875f;
+                occupancies[phase] = isOn ? kept + 0.125f : kept;
             }
         }
 
-        boolean hasFailed(int phase) {
-            return isPhase(phase) && onTimes[phase] >= FAILS;
-        }
-
         boolean calls(int phase) {
-            return isPhase(phase) && on[phase] || hasFailed(phase);
+            return ((on | failed) & bit(phase)) != 0;
         }
 
         /** A failed detector calls for its phase, but no longer keeps it green. */
         boolean extendsGreen(int phase) {
-            return isPhase(phase) && on[phase] && !hasFailed(phase);
+            return (on & ~failed & bit(phase)) != 0;
         }
     }
 
@@ -460,14 +455,14 @@ public final class BarrierLights {
         }
 
         /** Input 0 hides input 1 even where its own target isn't used. */
-        int targetInForce(Table table) {
+        int targetInForce(int used) {
             int target = NONE;
             if (on[0]) {
                 target = targets[0];
             } else if (on[1]) {
                 target = targets[1];
             }
-            return table.isUsed(target) ? target : NONE;
+            return (used & bit(target)) != 0 ? target : NONE;
         }
     }
 
@@ -475,6 +470,8 @@ public final class BarrierLights {
     private static final class Ring {
         private int phase = NONE;
         private int next = NONE;
+        private int forward = NONE;
+        private boolean wanted = false;
         private int lamps = 0;
         private int age = 0;
         private int against = 0;
@@ -487,11 +484,26 @@ public final class BarrierLights {
         }
 
         boolean isGreen() {
-            return phase != NONE && lamps == GREEN;
+            return lamps == GREEN;
         }
 
-        int greenBit() {
-            return isGreen() ? bit(phase) : 0;
+        /** Whether it is green, at least this old, and nobody walks. */
+        boolean mayEnd(int min) {
+            return lamps == GREEN && walkSign == 0 && age >= min;
+        }
+
+        int greenPhase() {
+            return lamps == GREEN ? bit(phase) : 0;
+        }
+
+        /** The other phase of its side, if that comes before its own, as a set. */
+        int phaseBefore() {
+            return waits() || phase % PHASES_OF_A_SIDE == 0 ? 0 : bit(phase - 1);
+        }
+
+        /** The other phase of its side, if that comes behind its own, as a set. */
+        int phaseBehind() {
+            return waits() || phase % PHASES_OF_A_SIDE != 0 ? 0 : bit(phase + 1);
         }
 
         void rest() {
@@ -644,7 +656,7 @@ public final class BarrierLights {
         private final Ring ring1 = new Ring();
         private final int[] faults = new int[PHASES];
         private int wrongPlace = NONE;
-        private boolean isOff = true;
+        private int used = 0;
         private int whyFlashing = 0;
         private int side = 0;
         private int calls = 0;
@@ -657,24 +669,29 @@ public final class BarrierLights {
                 return false;
             }
             table.copyFrom(written);
+            used = table.used();
             start();
             return true;
         }
 
+        /** A table that is enacted always has a used phase. */
+        boolean isOff() {
+            return used == 0;
+        }
+
         void start() {
-            isOff = false;
             whyFlashing = 0;
             ring0.rest();
             ring1.rest();
             side = 1;
-            calls = table.used();
+            calls = used;
             walkCalls = 0;
             monitor.beginAnew();
         }
 
         boolean takeButton(int phase) {
-            boolean walks = table.isUsed(phase) && table.at(phase, WALK_TIME) != 0;
-            if (isOff || whyFlashing != 0 || !walks) {
+            boolean walks = (used & bit(phase)) != 0 && table.at(phase, WALK_TIME) != 0;
+            if (whyFlashing != 0 || !walks) {
                 return false;
             }
             walkCalls |= bit(phase);
@@ -684,13 +701,18 @@ public final class BarrierLights {
         void pass(Plans plans, int clock) {
             detectors.pass();
             link.pass(plans, clock);
-            if (isOff || whyFlashing != 0) {
+            if (isOff() || whyFlashing != 0) {
                 return;
             }
             passCalls();
             passTimes(ring0);
             passTimes(ring1);
-            decide(plans);
+            int target = inputs.targetInForce(used);
+            if (target != NONE) {
+                goByInput(target);
+            } else {
+                goByCalls(link.isBeforeSplit(plans));
+            }
             watch();
         }
 
@@ -699,7 +721,7 @@ public final class BarrierLights {
                 Ring ring = ring(ringOf(phase));
                 if (ring.isGreen() && ring.phase == phase) {
                     passGap(ring);
-                } else if (table.isUsed(phase)) {
+                } else if ((used & bit(phase)) != 0) {
                     noteCalls(phase);
                 }
             }
@@ -716,7 +738,7 @@ public final class BarrierLights {
 
         private void noteCalls(int phase) {
             int recall = table.at(phase, RECALL);
-            if (detectors.calls(phase) || recall == RECALL_ONCE || recall == RECALL_TO_MAX) {
+            if (detectors.calls(phase) || recall == RECALL_TO_MIN || recall == RECALL_TO_MAX) {
                 calls |= bit(phase);
             }
             if (recall == RECALL_TO_WALK) {
@@ -731,7 +753,8 @@ public final class BarrierLights {
             ring.age++;
             if (ring.isGreen()) {
                 ring.passWalk(table.at(ring.phase, WALK_TIME), table.at(ring.phase, CLEAR_TIME));
-                if (isWantedNow(ring)) {
+                weigh(ring, countingCalls());
+                if (ring.wanted && inputs.targetInForce(used) == NONE) {
                     ring.against++;
                 }
                 return;
@@ -744,12 +767,12 @@ public final class BarrierLights {
             }
         }
 
-        private boolean isWantedNow(Ring ring) {
-            if (inputs.targetInForce(table) != NONE) {
-                return false;
-            }
-            int counting = countingCalls();
-            return isWanted(ring, counting, isBarrierNeeded(counting));
+        /** What is wanted of a ring, if there is no input of greater right. */
+        private void weigh(Ring ring, int counting) {
+            int before = ring0.phaseBefore() | ring1.phaseBefore();
+            boolean needed = (counting & (phasesOfSide(1 - side) | before)) != 0;
+            ring.forward = (counting & ring.phaseBehind()) != 0 ? ring.phase + 1 : NONE;
+            ring.wanted = needed || ring.forward != NONE;
         }
 
         private void end(Ring ring) {
@@ -764,7 +787,7 @@ public final class BarrierLights {
             boolean extended = detectors.extendsGreen(phase);
             ring.begin(phase, extended ? table.at(phase, PASSAGE) : 0);
             calls &= ~bit(phase);
-            boolean called = hasWalkCall(phase) || table.at(phase, RECALL) == RECALL_TO_WALK;
+            boolean called = (walkCalls & bit(phase)) != 0 || table.at(phase, RECALL) == RECALL_TO_WALK;
             if (called && table.at(phase, WALK_TIME) != 0) {
                 beginWalk(ring);
             }
@@ -775,31 +798,20 @@ public final class BarrierLights {
             walkCalls &= ~bit(ring.phase);
         }
 
-        private void decide(Plans plans) {
-            int target = inputs.targetInForce(table);
-            if (target != NONE) {
-                hadInput = true;
-                goByInput(target);
-                return;
-            }
-            if (hadInput) {
-                hadInput = false;
-                calls |= table.used() & ~greenPhases();
-            }
-            goByCalls(link.isBeforeSplit(plans));
-        }
-
         private void goByCalls(boolean beforeSplit) {
             boolean held = beforeSplit && side == 0;
             boolean forced = beforeSplit && side == 1;
-            // Turning yellow changes neither: the call of a ring's own phase moves no barrier.
-            int counting = countingCalls();
-            boolean needed = isBarrierNeeded(counting);
-            for (int number = 0; number < RINGS; number++) {
-                goOn(ring(number), counting, needed, forced);
+            if (hadInput) {
+                hadInput = false;
+                calls |= used & ~greenPhases();
             }
-            if (!held && mayLeave(ring0, counting, needed, forced)
-                    && mayLeave(ring1, counting, needed, forced)) {
+            // Both are weighed first: what one ring does here changes nothing that is wanted of the other.
+            int counting = countingCalls();
+            weigh(ring0, counting);
+            weigh(ring1, counting);
+            goOn(ring0, forced);
+            goOn(ring1, forced);
+            if (!held && mayLeave(ring0, forced) && mayLeave(ring1, forced)) {
                 leaveSide();
             }
             if (ring0.waits() && ring1.waits() && counting != 0) {
@@ -807,52 +819,25 @@ public final class BarrierLights {
             }
         }
 
-        private void goOn(Ring ring, int counting, boolean needed, boolean forced) {
-            int forward = forwardOf(ring, counting);
-            if (forward != NONE && isDone(ring, counting, needed, forced)) {
-                ring.turnYellow(forward);
-                return;
-            }
-            boolean mayWalk = ring.isGreen() && hasWalkCall(ring.phase) && ring.walkSign == 0;
-            if (mayWalk && !isWanted(ring, counting, needed)) {
+        private void goOn(Ring ring, boolean forced) {
+            boolean mayWalk = ring.isGreen() && ring.walkSign == 0 && !ring.wanted;
+            if (mayWalk && (walkCalls & bit(ring.phase)) != 0) {
                 beginWalk(ring);
             }
+            if (isDone(ring, forced) && ring.forward != NONE) {
+                ring.turnYellow(ring.forward);
+            }
         }
 
-        private boolean mayLeave(Ring ring, int counting, boolean needed, boolean forced) {
-            return ring.waits()
-                || forwardOf(ring, counting) == NONE && isDone(ring, counting, needed, forced);
+        private boolean mayLeave(Ring ring, boolean forced) {
+            return ring.waits() || isDone(ring, forced) && ring.forward == NONE;
         }
 
-        private boolean isDone(Ring ring, int counting, boolean needed, boolean forced) {
-            if (!mayEnd(ring) || !isWanted(ring, counting, needed)) {
+        private boolean isDone(Ring ring, boolean forced) {
+            if (!ring.wanted || !ring.mayEnd(table.at(ring.phase, MIN))) {
                 return false;
             }
             return forced || ring.gap == 0 || ring.against >= table.at(ring.phase, MAX);
-        }
-
-        private boolean mayEnd(Ring ring) {
-            return ring.isGreen() && ring.walkSign == 0 && ring.age >= table.at(ring.phase, MIN);
-        }
-
-        private boolean isWanted(Ring ring, int counting, boolean needed) {
-            return needed || forwardOf(ring, counting) != NONE;
-        }
-
-        private int forwardOf(Ring ring, int counting) {
-            int behind = ring.phase + 1;
-            boolean onThisSide = !ring.waits() && (bit(behind) & PHASES_BEHIND_ANOTHER) != 0;
-            return onThisSide && (counting & bit(behind)) != 0 ? behind : NONE;
-        }
-
-        private boolean isBarrierNeeded(int counting) {
-            return (counting & phasesOfSide(1 - side)) != 0
-                || isCalledBefore(ring0, counting) || isCalledBefore(ring1, counting);
-        }
-
-        private boolean isCalledBefore(Ring ring, int counting) {
-            boolean hasOneBefore = (bit(ring.phase) & PHASES_BEHIND_ANOTHER) != 0;
-            return hasOneBefore && (counting & bit(ring.phase - 1)) != 0;
         }
 
         private void leaveSide() {
@@ -870,7 +855,7 @@ public final class BarrierLights {
             }
             for (int number = 0; number < RINGS; number++) {
                 int called = firstOfSide(number, counting);
-                int first = called != NONE ? called : firstOfSide(number, table.used());
+                int first = called != NONE ? called : firstOfSide(number, used);
                 if (first != NONE) {
                     begin(ring(number), first);
                 }
@@ -886,12 +871,12 @@ public final class BarrierLights {
         }
 
         private void goByInput(int target) {
+            hadInput = true;
             boolean here = sideOf(target) == side;
             for (int number = 0; number < RINGS; number++) {
                 giveWay(ring(number), goalOf(number, target), here);
             }
-            // No ring is at its goal here: the goals are on the target's side.
-            if (!here && (ring0.waits() || mayEnd(ring0)) && (ring1.waits() || mayEnd(ring1))) {
+            if (!here && mayLeaveByInput(ring0) && mayLeaveByInput(ring1)) {
                 leaveSide();
             }
             if (ring0.waits() && ring1.waits()) {
@@ -909,9 +894,14 @@ public final class BarrierLights {
             if (ring.walkSign == WALK_SIGN) {
                 ring.beginClear();
             }
-            if (here && goal != NONE && ring.phase != goal && mayEnd(ring)) {
+            if (here && goal != NONE && ring.phase != goal && ring.mayEnd(table.at(ring.phase, MIN))) {
                 ring.turnYellow(goal);
             }
+        }
+
+        /** Asked where the target is on the other side, so that a ring can't be at its goal. */
+        private boolean mayLeaveByInput(Ring ring) {
+            return ring.waits() || ring.mayEnd(table.at(ring.phase, MIN));
         }
 
         private int goalOf(int number, int target) {
@@ -919,14 +909,14 @@ public final class BarrierLights {
                 return target;
             }
             int twin = (target + PHASES_OF_A_RING) % PHASES;
-            return table.isUsed(twin) ? twin : NONE;
+            return (used & bit(twin)) != 0 ? twin : NONE;
         }
 
         private void watch() {
             for (int phase = 0; phase < PHASES; phase++) {
                 monitor.see(phase, lampsOf(phase));
             }
-            int found = monitor.look(table.used());
+            int found = monitor.look(used);
             if (found != 0) {
                 whyFlashing = found;
                 ring0.rest();
@@ -937,7 +927,7 @@ public final class BarrierLights {
         }
 
         int lampsOf(int phase) {
-            if (isOff || !table.isUsed(phase) || !isPhase(phase)) {
+            if (!isPhase(phase) || (used & bit(phase)) == 0) {
                 return 0;
             }
             if (whyFlashing != 0) {
@@ -959,20 +949,20 @@ public final class BarrierLights {
             if ((calls & bit(phase)) != 0) {
                 signs |= CALL_SIGN;
             }
-            if (hasWalkCall(phase)) {
+            if ((walkCalls & bit(phase)) != 0) {
                 signs |= WALK_CALL_SIGN;
             }
-            return detectors.hasFailed(phase) ? signs | FAILED_SIGN : signs;
+            return (detectors.failed & bit(phase)) != 0 ? signs | FAILED_SIGN : signs;
         }
 
         int way() {
-            if (isOff) {
+            if (isOff()) {
                 return IS_OFF;
             }
             if (whyFlashing != 0) {
                 return FLASHES;
             }
-            if (inputs.targetInForce(table) != NONE) {
+            if (inputs.targetInForce(used) != NONE) {
                 return GOES_BY_INPUT;
             }
             return link.plan != NONE ? GOES_BY_PLAN : GOES_FREE;
@@ -983,11 +973,7 @@ public final class BarrierLights {
         }
 
         private int greenPhases() {
-            return ring0.greenBit() | ring1.greenBit();
-        }
-
-        private boolean hasWalkCall(int phase) {
-            return (walkCalls & bit(phase)) != 0;
+            return ring0.greenPhase() | ring1.greenPhase();
         }
 
         private Ring ring(int number) {
