@@ -6,6 +6,7 @@ public final class FaultTest {
         phasesThatGoTogether();
         darkForTheSecondTick();
         shortYellow();
+        everyPhaseIsWatchedForShort();
         yellowIsCountedSinceGreen();
         theOrderOfReasons();
         itBeginsAnewAtAStart();
@@ -82,6 +83,29 @@ public final class FaultTest {
         x.fault(0, 6, 1);
         Check.trace("and one of another phase", x, "1 Y-R-Y---", "1 *-*-*-*-");
         Check.due("why", x.crossing(0, 2), 2);
+        for (int phase = 0; phase < 8; phase++) {
+            BarrierLights y = Check.started("01234567", 1, 0, 9, 3, 4, 0, 0, 0);
+            Check.ticks(y, 5);
+            Check.dueText("all red", Check.lamps(y, 0), "RRRRRRRR");
+            y.fault(0, phase, 1);
+            y.tick(1);
+            Check.due("phase " + phase + " dark once", y.crossing(0, 2), 0);
+            y.tick(1);
+            Check.due("phase " + phase + " dark twice", y.crossing(0, 2), 2);
+        }
+    }
+
+    /** Each phase in its turn goes from green to nothing. */
+    private static void everyPhaseIsWatchedForShort() {
+        for (int phase = 0; phase < 8; phase++) {
+            BarrierLights x = Check.started("01234567", 1, 0, 9, 3, 0, 0, 0, 1);
+            x.fault(0, phase, 3);
+            int greenTick = 1 + 4 * (phase % 4);
+            Check.ticks(x, greenTick);
+            Check.due("phase " + phase + " is green", x.lamp(0, phase), 4);
+            x.tick(1);
+            Check.due("why, without yellow of phase " + phase, x.crossing(0, 2), 3);
+        }
     }
 
     private static void shortYellow() {
