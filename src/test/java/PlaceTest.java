@@ -32,6 +32,10 @@ public final class PlaceTest {
         expect(x, "RECALL 3 without WALK", 31);
         x.put(0, 3, 7, 2);
         expect(x, "RECALL 2 without WALK", -1);
+        BarrierLights y = new BarrierLights();
+        Check.write(y, 0, 1, 5, 3, 20, 4, 2, 6, 6, 3);
+        Check.write(y, 0, 2, 5, 3, 20, 4, 2, 0, 0, 0);
+        expect(y, "RECALL 3 of one phase, no WALK of the next", -1);
     }
 
     /** Phases 0 and 3 of crossing 0 have the right entries. */

@@ -20,12 +20,14 @@ public final class PressTest {
 
     private static void whatIsNotThereIsRefused() {
         BarrierLights x = table();
+        Check.write(x, 0, 3, 0, 0, 10, 3, 0, 2, 3, 0);
         Check.due("press while OFF", x.press(0, 0), false);
         Check.enact(x, 0);
         Check.due("no walk call was kept", x.signs(0, 0), 1);
         Check.due("press at the crossing that is OFF", x.press(1, 0), false);
         Check.due("press without WALK", x.press(0, 2), false);
         Check.due("press at an unused phase", x.press(0, 1), false);
+        Check.due("press at an unused phase with WALK", x.press(0, 3), false);
         for (int wrong : new int[] {-1, 8, Integer.MIN_VALUE, Integer.MAX_VALUE}) {
             Check.due("press at phase " + wrong, x.press(0, wrong), false);
         }
