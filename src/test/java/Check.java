@@ -1,5 +1,8 @@
 /** What the project's tests share: it prints each answer that isn't the one that is due. */
 final class Check {
+    static final int[] NO_CROSSING = {-1, 2, Integer.MIN_VALUE, Integer.MAX_VALUE};
+    static final int[] NO_PHASE = {-1, 8, Integer.MIN_VALUE, Integer.MAX_VALUE};
+    static final int[] NO_INPUT = {-1, 2, Integer.MIN_VALUE, Integer.MAX_VALUE};
     private static final String LETTERS = "-RY?G???*";
     private static int wrong = 0;
 
@@ -112,5 +115,41 @@ final class Check {
             text.append(what == 0 ? "" : " ").append(x.crossing(crossing, what));
         }
         return text.toString();
+    }
+
+    /** The lamps of one phase of crossing 0 that are due after each tick: "3 Y" is three such ticks. */
+    static void lampTrace(String name, BarrierLights x, int phase, String... rows) {
+        for (String row : rows) {
+            String[] parts = row.split(" ");
+            for (int i = 0; i < Integer.parseInt(parts[0]); i++) {
+                int clock = x.tick(1);
+                due(name + ": phase " + phase + " at clock " + clock, x.lamp(0, phase), LETTERS.indexOf(parts[1]));
+            }
+        }
+    }
+
+    /** The signs of one phase of crossing 0 that are due after each tick. */
+    static void signTrace(String name, BarrierLights x, int phase, int... signs) {
+        for (int sign : signs) {
+            int clock = x.tick(1);
+            due(name + ": signs of phase " + phase + " at clock " + clock, x.signs(0, phase), sign);
+        }
+    }
+
+    /** All that can be asked of an object, but for place. */
+    static String allButPlace(BarrierLights x) {
+        StringBuilder text = new StringBuilder("clock ").append(x.tick(0));
+        for (int crossing = 0; crossing < 2; crossing++) {
+            text.append(" | ").append(state(x, crossing)).append(" | ").append(lamps(x, crossing)).append(" |");
+            for (int phase = 0; phase < 8; phase++) {
+                text.append(' ').append(x.signs(crossing, phase)).append('/').append(x.occupancy(crossing, phase));
+            }
+        }
+        return text.toString();
+    }
+
+    /** All that can be asked of an object. */
+    static String all(BarrierLights x) {
+        return allButPlace(x) + " | " + x.place(0) + " " + x.place(1);
     }
 }

@@ -23,7 +23,7 @@ public final class HardyTest {
             Check.write(x, 0, phase, row);
         }
         answers.append(Check.enact(x, 0));
-        for (int i = 0; i < 440; i++) {
+        for (int i = 0; i < 130; i++) {
             answers.append(' ').append(call(x, random));
         }
     }
@@ -51,7 +51,8 @@ public final class HardyTest {
             case 11: return "" + x.signs(a, b);
             case 12: return "" + x.crossing(a, b);
             case 13: return "" + x.occupancy(a, b);
-            default: return Check.tick(x, any(random, 21)) + Check.lamps(x, 0) + Check.signs(x) + Check.state(x, 0);
+            case 14: return Check.lamps(x, 0) + Check.signs(x);
+            default: return Check.tick(x, any(random, 21)) + x.crossing(0, 5) + x.crossing(0, 6);
         }
     }
 }

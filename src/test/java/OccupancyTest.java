@@ -41,8 +41,8 @@ public final class OccupancyTest {
     private static void itIsAFloat() {
         BarrierLights x = Check.started("02", 1, 0, 1, 3, 0, 0, 0, 0);
         float due = 0f;
-        for (int i = 0; i < 400; i++) {
-            boolean on = i < 200 || i % 3 == 0;
+        for (int i = 0; i < 115; i++) {
+            boolean on = i < 75 || i % 3 == 0;
             x.detect(0, 2, on);
             x.fault(0, 0, i == 50 ? 2 : 0);
             x.tick(1);

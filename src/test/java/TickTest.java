@@ -2,6 +2,7 @@
 public final class TickTest {
     public static void main(String[] args) {
         theClock();
+        aWholeLife();
         throughBothSides();
         redOfNoTicks();
         maxCountsWhileSomethingIsWanted();
@@ -34,16 +35,33 @@ public final class TickTest {
         }
     }
 
+    /** The last of 512 calls is answered as the first. */
+    private static void aWholeLife() {
+        BarrierLights x = new BarrierLights();
+        for (int call = 1; call <= 512; call++) {
+            Check.due("call " + call, x.tick(20), 20 * call);
+        }
+        BarrierLights y = new BarrierLights();
+        y.plan(0, 119, 118, 1);
+        int number = 0;
+        for (int clock = 20; clock <= 20 * 254; clock += 20) {
+            y.tick(20);
+            y.message(0, number, 0);
+            number = (number + 1) % 8;
+        }
+        Check.due("the local clock is what the clock less the offset is", y.crossing(0, 4), (5079 - 118) % 119);
+    }
+
     private static void throughBothSides() {
         BarrierLights x = Check.started("01234567", 4, 2, 10, 3, 1, 0, 0, 0);
         Check.trace("once through", x, "4 GRRRGRRR", "3 YRRRYRRR", "1 RRRRRRRR", "4 RGRRRGRR", "3 RYRRRYRR",
-            "1 RRRRRRRR", "4 RRGRRRGR", "3 RRYRRRYR", "1 RRRRRRRR", "40 RRRGRRRG");
+            "1 RRRRRRRR", "4 RRGRRRGR", "3 RRYRRRYR", "1 RRRRRRRR", "20 RRRGRRRG");
     }
 
     private static void redOfNoTicks() {
         BarrierLights x = Check.started("01234567", 1, 0, 1, 3, 0, 0, 0, 0);
         Check.trace("yellow, then the next at once", x, "1 GRRRGRRR", "3 YRRRYRRR", "1 RGRRRGRR", "3 RYRRRYRR",
-            "1 RRGRRRGR", "3 RRYRRRYR", "40 RRRGRRRG");
+            "1 RRGRRRGR", "3 RRYRRRYR", "20 RRRGRRRG");
     }
 
     private static void maxCountsWhileSomethingIsWanted() {
