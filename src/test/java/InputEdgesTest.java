@@ -14,6 +14,7 @@ public final class InputEdgesTest {
         aPlanDoesNotHoldIt();
         aRingAtItsGoalStays();
         aRingInYellowGoesOn();
+        aGoalThatIsNextStillBegins();
         theSideChangesWhenBothWait();
         callsWhenItEnds();
         callsOnceAlone();
@@ -184,22 +185,40 @@ public final class InputEdgesTest {
         }
     }
 
+    /** The input ends while its goal is next: the goal begins all the same, and only then goes on. */
+    private static void aGoalThatIsNextStillBegins() {
+        for (int wait = 1; wait <= 3; wait++) {
+            BarrierLights x = Check.started("01234567", QUICK);
+            x.target(0, 0, 1);
+            x.preempt(0, 0, true);
+            Check.trace("at 1 and 5", x, "1 RGRRRGRR");
+            x.target(0, 0, 0);
+            Check.trace("0 and 4 are next", x, wait + " RYRRRYRR");
+            x.preempt(0, 0, false);
+            Check.trace("they begin", x, (3 - wait) + " RYRRRYRR", "1 GRRRGRRR", "3 YRRRYRRR", "1 RGRRRGRR");
+        }
+    }
+
+    /** Both ways: the ring of the slow phase keeps the side until it waits, too. */
     private static void theSideChangesWhenBothWait() {
-        BarrierLights x = new BarrierLights();
-        Check.write(x, 0, 0, 1, 0, 9, 3, 0, 0, 0, 0);
-        Check.write(x, 0, 4, 1, 0, 9, 5, 1, 0, 0, 0);
-        Check.write(x, 0, 2, QUICK);
-        Check.write(x, 0, 6, QUICK);
-        Check.enact(x, 0);
-        x.tick(1);
-        x.target(0, 1, 6);
-        x.preempt(0, 1, true);
-        Check.ticks(x, 4);
-        Check.dueText("ring 0 waits", Check.state(x, 0), "0 3 0 -1 -1 -1 4");
-        Check.ticks(x, 2);
-        Check.dueText("ring 1 in its red", Check.state(x, 0), "0 3 0 -1 -1 -1 4");
-        x.tick(1);
-        Check.dueText("both begin", Check.state(x, 0), "1 3 0 -1 -1 2 6");
+        for (int slow : new int[] {0, 4}) {
+            BarrierLights x = new BarrierLights();
+            Check.write(x, 0, 4 - slow, 1, 0, 9, 3, 0, 0, 0, 0);
+            Check.write(x, 0, slow, 1, 0, 9, 5, 1, 0, 0, 0);
+            Check.write(x, 0, 2, QUICK);
+            Check.write(x, 0, 6, QUICK);
+            Check.enact(x, 0);
+            x.tick(1);
+            x.target(0, 1, 6);
+            x.preempt(0, 1, true);
+            String phases = slow == 0 ? "0 -1" : "-1 4";
+            Check.ticks(x, 4);
+            Check.dueText("one ring waits", Check.state(x, 0), "0 3 0 -1 -1 " + phases);
+            Check.ticks(x, 2);
+            Check.dueText("the other in its red", Check.state(x, 0), "0 3 0 -1 -1 " + phases);
+            x.tick(1);
+            Check.dueText("both begin", Check.state(x, 0), "1 3 0 -1 -1 2 6");
+        }
     }
 
     private static void callsWhenItEnds() {

@@ -44,5 +44,15 @@ public final class SignsTest {
         Check.dueText("call, walk call, failed; WALK", Check.signs(x), "19 16 6 0 0 0 0 0");
         Check.ticks(x, 10);
         Check.dueText("CLEAR", Check.signs(x), "19 16 10 0 0 0 0 0");
+        BarrierLights y = Check.started("02", 1, 0, 60, 3, 0, 3, 2, 0);
+        y.tick(10);
+        y.detect(0, 2, true);
+        Check.ticks(y, 60);
+        y.press(0, 2);
+        Check.due("walk call, failed", y.signs(0, 2), 18);
+        y.tick(1);
+        y.press(0, 2);
+        Check.due("walk call, WALK, failed", y.signs(0, 2), 22);
+        Check.signTrace("walk call, CLEAR, failed", y, 2, 22, 22, 26, 26, 20);
     }
 }
