@@ -9,9 +9,13 @@ public final class CallEdgesTest {
         gapIsPassageWhileOn();
         gapStaysAt0();
         gapAtTheBeginning();
+        gapAtTheBeginningOfAWalk();
+        gapWithAPlanOrAnInput();
         gapWithRecall2();
         gapOfAFailedDetector();
         noCallsWhileItFlashes();
+        aGreenPhaseGetsNoCall();
+        gapRunsOutInWalkAndClear();
         Check.end();
     }
 
@@ -188,5 +192,56 @@ public final class CallEdgesTest {
         y.fault(0, 2, 2);
         y.tick(6);
         Check.dueText("no walk calls", Check.signs(y), "0 0 0 0 0 0 0 0");
+    }
+
+    /** Phase 0 comes again by its RECALL and rests: while it is green that gives it nothing, nor a second WALK. */
+    private static void aGreenPhaseGetsNoCall() {
+        for (int recall = 1; recall <= 3; recall++) {
+            BarrierLights x = recalled(recall);
+            Check.ticks(x, recall == 3 ? 9 : recall == 2 ? 11 : 8);
+            int[] signs = recall == 3 ? new int[] {4, 8, 0, 0, 0, 0, 0, 0} : new int[8];
+            Check.dueText("the last tick of phase 2", Check.lamps(x, 0), "R-Y-----");
+            Check.signTrace("at rest with RECALL " + recall, x, 0, signs);
+            Check.dueText("it rests", Check.lamps(x, 0), "G-R-----");
+        }
+    }
+
+    /** Its detector was on at its beginning alone: the GAP of 4 is 0 long before CLEAR ends. */
+    private static void gapRunsOutInWalkAndClear() {
+        for (int clear = 1; clear <= 3; clear++) {
+            BarrierLights x = Check.started("02", 1, 4, 60, 3, 0, 4, clear, 0);
+            x.press(0, 0);
+            x.detect(0, 0, true);
+            x.tick(1);
+            x.detect(0, 0, false);
+            Check.lampTrace("WALK 4, CLEAR " + clear, x, 0, (3 + clear) + " G", "3 Y");
+        }
+    }
+
+    /** A button is no detector: the GAP is 0, and the green ends with CLEAR. */
+    private static void gapAtTheBeginningOfAWalk() {
+        BarrierLights x = Check.started("02", 1, 10, 60, 3, 0, 1, 1, 0);
+        x.press(0, 0);
+        Check.lampTrace("WALK 1, CLEAR 1", x, 0, "2 G", "3 Y");
+    }
+
+    /** PASSAGE 4: the GAP is 0 four ticks behind the last at which it was on, whatever the crossing goes by. */
+    private static void gapWithAPlanOrAnInput() {
+        for (int on = 1; on <= 4; on++) {
+            for (boolean byInput : new boolean[] {false, true}) {
+                BarrierLights x = Check.started("02", 1, 4, 60, 3, 0, 0, 0, 0);
+                x.plan(0, 20, 0, 1);
+                x.message(0, 0, 0);
+                x.target(0, 0, 0);
+                for (int tick = 1; tick <= 4; tick++) {
+                    x.preempt(0, 0, byInput && tick > 1);
+                    x.detect(0, 0, tick <= on);
+                    x.tick(1);
+                }
+                x.preempt(0, 0, false);
+                x.detect(0, 0, false);
+                Check.lampTrace("on for " + on + ", an input " + byInput, x, 0, (on - 1) + " G", "3 Y");
+            }
+        }
     }
 }

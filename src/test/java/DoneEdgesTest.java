@@ -22,6 +22,15 @@ public final class DoneEdgesTest {
         crossToTheOtherSideIfThatHasACall();
         eachRingsFirstWithACall();
         aRingWithoutAnyWaitsOn();
+        heldButNotFromCrossing();
+        notForcedOnSide0();
+        aWalkCallStaysThroughYellow();
+        heldWithOneRingGreen();
+        forcedInEitherRing();
+        forcedForward();
+        wantedWhileHeld();
+        walkBeforeMin();
+        walkBesideARingThatGoesForward();
         Check.end();
     }
 
@@ -310,5 +319,120 @@ public final class DoneEdgesTest {
         Check.dueText("ring 0 has none on side 0", Check.state(y, 0), "0 1 0 -1 -1 -1 5");
         Check.ticks(y, 4);
         Check.dueText("ring 1 has none on side 1", Check.state(y, 0), "1 1 0 -1 -1 3 -1");
+    }
+
+    /** Side 0 is left at local clock 19 and its rings wait from 2 on: they cross, though 2 is less than the split. */
+    private static void heldButNotFromCrossing() {
+        BarrierLights x = planned(20, 9, QUICK);
+        x.target(0, 0, 0);
+        x.preempt(0, 0, true);
+        Check.ticks(x, 19);
+        x.preempt(0, 0, false);
+        Check.trace("it isn't held at 19", x, "3 Y-R-----");
+        x.tick(1);
+        Check.dueText("it crosses", Check.state(x, 0), "1 2 0 0 2 2 -1");
+    }
+
+    /** Its GAP is never 0: on side 0 MAX ends it, before the split (with a forward phase) and from it on. */
+    private static void notForcedOnSide0() {
+        for (int split : new int[] {1, 19}) {
+            BarrierLights x = Check.started(split == 1 ? "02" : "012", 1, 9, 9, 3, 0, 0, 0, 0);
+            x.plan(0, 20, 0, split);
+            x.message(0, 0, 0);
+            x.detect(0, 0, true);
+            Check.lampTrace("SPLIT " + split, x, 0, "9 G", "3 Y");
+        }
+    }
+
+    /** A walk call that came while something was wanted is there still when its ring has gone forward. */
+    private static void aWalkCallStaysThroughYellow() {
+        BarrierLights x = Check.started("012", 3, 0, 9, 3, 1, 1, 1, 0);
+        x.tick(1);
+        x.press(0, 0);
+        Check.signTrace("green, yellow, red, and phase 1 behind it", x, 0, 2, 2, 2, 2, 2, 2, 2, 2);
+        Check.dueText("phase 1", Check.lamps(x, 0), "RGR-----");
+    }
+
+    /** The other ring has no phase on side 0 and waits. */
+    private static void heldWithOneRingGreen() {
+        for (int phase : new int[] {0, 1, 4, 5}) {
+            BarrierLights x = Check.started(phase + "2", QUICK);
+            x.plan(0, 20, 0, 6);
+            x.message(0, 0, 0);
+            Check.lampTrace("phase " + phase + " alone", x, phase, "6 G", "3 Y", "1 R");
+        }
+    }
+
+    /** Phase 0 has a call at the input's end; the GAP is never 0 and MAX far away. */
+    private static void forcedInEitherRing() {
+        for (int phase : new int[] {2, 3, 6, 7}) {
+            for (int local = 18; local <= 22; local++) {
+                BarrierLights x = Check.started("0" + phase, 1, 10, 60, 3, 0, 0, 0, 2);
+                Check.due(phase + " at local clock " + local, lampBehindAnInput(x, phase, local), local < 20 ? 4 : 2);
+            }
+        }
+    }
+
+    private static int lampBehindAnInput(BarrierLights x, int phase, int ticks) {
+        x.plan(0, 20, 0, 4);
+        x.message(0, 0, 0);
+        x.target(0, 0, phase);
+        x.preempt(0, 0, true);
+        Check.ticks(x, ticks);
+        x.preempt(0, 0, false);
+        x.tick(1);
+        return x.lamp(0, phase);
+    }
+
+    /** The forward phase 3 of ring 0, or 7 of ring 1, has a call too. */
+    private static void forcedForward() {
+        for (int phase : new int[] {2, 6}) {
+            for (int local = 18; local <= 22; local++) {
+                BarrierLights x = Check.started("0" + phase + (phase + 1), 1, 10, 60, 3, 0, 0, 0, 2);
+                int due = local < 20 ? 4 : 2;
+                Check.due(phase + " at local clock " + local, lampBehindAnInput(x, phase, local), due);
+                Check.ticks(x, 3);
+                Check.due("3 ticks behind it", x.lamp(0, phase + 1), due == 2 ? 4 : 1);
+            }
+        }
+    }
+
+    /** Held isn't unwanted: the button of a green phase waits as long as the call of the other side does. */
+    private static void wantedWhileHeld() {
+        BarrierLights x = planned(20, 9, 1, 0, 9, 3, 0, 1, 1, 0);
+        x.tick(1);
+        x.press(0, 0);
+        Check.signTrace("no WALK begins", x, 0, 2, 2, 2, 2, 2, 2, 2, 2, 2);
+        Check.due("yellow", x.lamp(0, 0), 2);
+    }
+
+    /** Nothing is wanted from tick 13 on, when phase 2 begins; a plan changes nothing of that. */
+    private static void walkBeforeMin() {
+        for (boolean byPlan : new boolean[] {false, true}) {
+            BarrierLights x = Check.started("02", 9, 0, 9, 3, 0, 2, 2, 0);
+            x.plan(0, 20, 0, 1);
+            Check.ticks(x, 13);
+            Check.due("message", byPlan && x.message(0, 0, 0), byPlan);
+            Check.due("phase 2 is 0 old", x.lamp(0, 2), 4);
+            x.press(0, 2);
+            Check.signTrace("a plan " + byPlan, x, 2, 4, 4, 8, 8, 0);
+        }
+    }
+
+    /** Phase 1 is wanted of ring 0 alone: ring 1 begins its WALK. */
+    private static void walkBesideARingThatGoesForward() {
+        for (int ring = 0; ring < 2; ring++) {
+            int walks = ring == 0 ? 4 : 0;
+            BarrierLights x = Check.started("01452", 1, 0, 9, 3, 0, 1, 1, 0);
+            Check.ticks(x, 15);
+            callOnce(x, 0);
+            Check.ticks(x, 5);
+            Check.dueText("rest", Check.lamps(x, 0), "GRR-GR--");
+            x.detect(0, ring * 4 + 1, true);
+            x.press(0, walks);
+            x.tick(1);
+            Check.due("yellow", x.lamp(0, ring * 4), 2);
+            Check.due("WALK", x.signs(0, walks), 4);
+        }
     }
 }

@@ -19,6 +19,10 @@ public final class InputEdgesTest {
         callsWhenItEnds();
         callsOnceAlone();
         whileItFlashes();
+        aRingWithoutGoalClearsToo();
+        callsComeAtTheEndOfTheTick();
+        aCallBeforeAYellowOrRedPhase();
+        aCallInARingThatWaits();
         Check.end();
     }
 
@@ -273,5 +277,75 @@ public final class InputEdgesTest {
         x.preempt(0, 0, false);
         x.tick(3);
         Check.dueText("no calls by its end", Check.signs(x), "0 0 0 0 0 0 0 0");
+    }
+
+    private static void aRingWithoutGoalClearsToo() {
+        BarrierLights x = Check.started("0247", 1, 0, 9, 3, 0, 5, 2, 0);
+        Check.ticks(x, 10);
+        Check.dueText("rest", Check.lamps(x, 0), "R-G-R--G");
+        x.press(0, 7);
+        x.tick(1);
+        Check.due("WALK", x.signs(0, 7), 4);
+        x.target(0, 0, 2);
+        x.preempt(0, 0, true);
+        Check.signTrace("phase 3 isn't used, so 7 has no goal", x, 7, 8, 8, 0, 0);
+    }
+
+    /** The calls behind an input come with (e), so that AGAINST is 1 at the tick after that. */
+    private static void callsComeAtTheEndOfTheTick() {
+        BarrierLights x = Check.started("02", 1, 9, 5, 3, 0, 0, 0, 0);
+        Check.ticks(x, 10);
+        x.detect(0, 0, true);
+        Check.trace("phase 0, and no calls", x, "3 R-Y-----", "5 G-R-----");
+        x.target(0, 0, 0);
+        x.preempt(0, 0, true);
+        x.tick(1);
+        x.preempt(0, 0, false);
+        Check.trace("one tick, then 5 against it", x, "5 G-R-----", "3 Y-R-----");
+    }
+
+    /** All quick but phase 4, which its detector would keep for ever; MAX 5 ends it. */
+    private static BarrierLights kept(String phases) {
+        BarrierLights x = new BarrierLights();
+        for (char phase : phases.toCharArray()) {
+            Check.write(x, 0, phase - '0', 1, 9, 5, 3, 2, 0, 0, 0);
+        }
+        Check.enact(x, 0);
+        Check.ticks(x, 30);
+        Check.dueText("no calls", Check.signs(x), "0 0 0 0 0 0 0 0");
+        return x;
+    }
+
+    /** Ring 0 is on its way from 1 back to 0 when the input ends and 0 has a call: that is against 4 at once. */
+    private static void aCallBeforeAYellowOrRedPhase() {
+        for (int with = 1; with <= 5; with++) {
+            BarrierLights x = kept("01245");
+            x.detect(0, 1, true);
+            x.tick(1);
+            x.detect(0, 1, false);
+            Check.ticks(x, 9);
+            Check.dueText("rest at 1 and 4", Check.lamps(x, 0), "RGR-GR--");
+            x.detect(0, 4, true);
+            x.target(0, 0, 0);
+            x.preempt(0, 0, true);
+            x.tick(with);
+            x.preempt(0, 0, false);
+            x.detect(0, 0, true);
+            // With 5 ticks phase 0 begins at the next one, and then its call is gone before ring 1 is looked at.
+            Check.lampTrace("behind " + with + " ticks with the input", x, 4, (with < 5 ? 4 : 5) + " G", "3 Y");
+        }
+    }
+
+    /** Ring 1 waits, as 4 isn't used: a call of 5 is before none of its phases, and against nobody. */
+    private static void aCallInARingThatWaits() {
+        BarrierLights x = kept("0125");
+        x.target(0, 0, 0);
+        x.preempt(0, 0, true);
+        x.tick(10);
+        Check.dueText("ring 1 waits", Check.state(x, 0), "0 3 0 -1 -1 0 -1");
+        x.preempt(0, 0, false);
+        x.detect(0, 0, true);
+        x.detect(0, 5, true);
+        Check.lampTrace("one tick, then 5 against it", x, 0, "5 G", "3 Y");
     }
 }

@@ -4,6 +4,7 @@ public final class LinkEdgesTest {
         silenceAt30();
         aMessageAtEachSilence();
         aRefusedMessageLeavesTheSilence();
+        aPlanMadeAnewLeavesTheSilence();
         eachCrossingHasItsOwnSilence();
         silenceWhileItFlashes();
         moduloTheCycle();
@@ -227,5 +228,14 @@ public final class LinkEdgesTest {
             Check.due("without the modulo", x.message(0, i < 8 ? i + 8 : i, 0), false);
             Check.due("the next", x.message(0, i % 8, 0), true);
         }
+    }
+
+    private static void aPlanMadeAnewLeavesTheSilence() {
+        BarrierLights x = linked(60, 0);
+        Check.ticks(x, 29);
+        Check.due("plan made anew", x.plan(0, 60, 0, 1), true);
+        Check.due("it has it still", x.crossing(0, 3), 0);
+        x.tick(1);
+        Check.due("silence 30", x.crossing(0, 3), -1);
     }
 }

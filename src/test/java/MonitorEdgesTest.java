@@ -18,6 +18,9 @@ public final class MonitorEdgesTest {
         beginsAnewWithAStart();
         ringsWaitAndNoCalls();
         theOtherCrossingGoesOn();
+        yellowWithADarkTickBetween();
+        aFaultOfAPhaseThatIsNotUsed();
+        whatIsTakenWhileItFlashes();
         Check.end();
     }
 
@@ -292,5 +295,48 @@ public final class MonitorEdgesTest {
         Check.dueText("crossing 0", Check.state(x, 0), "0 1 0 -1 -1 0 -1");
         Check.dueText("crossing 1", Check.state(x, 1), "0 4 1 -1 -1 -1 -1");
         Check.trace("crossing 0", x, "3 Y-R-----", "1 R-R-----", "3 R-G-----");
+    }
+
+    /** YELLOW 5: behind 3 ticks of yellow one is dark, then one is yellow: 4 since it last showed green. */
+    private static void yellowWithADarkTickBetween() {
+        BarrierLights x = Check.started("02", 1, 0, 9, 5, 1, 0, 0, 0);
+        Check.trace("yellow", x, "1 G-R-----", "3 Y-R-----");
+        x.fault(0, 0, 3);
+        Check.trace("dark", x, "1 --R-----");
+        x.fault(0, 0, 0);
+        Check.trace("yellow again", x, "1 Y-R-----", "1 R-R-----", "3 R-G-----");
+    }
+
+    private static void aFaultOfAPhaseThatIsNotUsed() {
+        BarrierLights x = Check.started("02", 1, 0, 9, 3, 1, 0, 0, 0);
+        Check.due("fault of phase 7", x.fault(0, 7, 2), true);
+        Check.dueText("it shows nothing", Check.lamps(x, 0), "R-R-----");
+        Check.write(x, 0, 7, 1, 0, 9, 3, 1, 0, 0, 0);
+        Check.enact(x, 0);
+        Check.dueText("with the next table it does", Check.lamps(x, 0), "R-R----5");
+    }
+
+    /** Only a button is refused then; all the rest is there when it starts again. */
+    private static void whatIsTakenWhileItFlashes() {
+        BarrierLights x = Check.started("02", 1, 0, 9, 3, 1, 1, 1, 0);
+        x.fault(0, 2, 2);
+        x.tick(1);
+        Check.due("it flashes", x.crossing(0, 1), 4);
+        Check.due("press", x.press(0, 2), false);
+        Check.due("put", x.put(0, 2, 0, 2), true);
+        Check.due("detect", x.detect(0, 0, true), true);
+        Check.due("plan", x.plan(1, 20, 0, 5), true);
+        Check.due("message", x.message(0, 4, 1), true);
+        Check.due("target", x.target(0, 1, 2), true);
+        Check.due("preempt", x.preempt(0, 1, true), true);
+        Check.due("fault", x.fault(0, 2, 0), true);
+        Check.due("reset of the other", x.reset(1), false);
+        Check.dueText("it flashes still", Check.state(x, 0), "0 4 1 1 0 -1 -1");
+        Check.due("reset", x.reset(0), true);
+        Check.dueText("with an input", Check.state(x, 0), "1 3 0 1 0 -1 -1");
+        Check.trace("its target", x, "1 R-G-----");
+        x.preempt(0, 1, false);
+        Check.due("by a plan", x.crossing(0, 1), 2);
+        Check.due("occupancy", x.occupancy(0, 0), 0.125f);
     }
 }

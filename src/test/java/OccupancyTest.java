@@ -4,6 +4,7 @@ public final class OccupancyTest {
         whatIsNotThere();
         itRisesAndFalls();
         itIsAFloat();
+        eachStepIsAFloat();
         Check.end();
     }
 
@@ -53,5 +54,19 @@ public final class OccupancyTest {
             Check.due("tick " + i, x.occupancy(0, 2), due);
         }
         Check.due("it went on while it flashed", x.crossing(0, 1), 4);
+    }
+
+    /** Rounded but once, behind both steps, the last one would be 0.50573117f. */
+    private static void eachStepIsAFloat() {
+        BarrierLights x = new BarrierLights();
+        float due = 0f;
+        for (char on : "11011000111".toCharArray()) {
+            x.detect(0, 0, on == '1');
+            x.tick(1);
+            due *= 0.875f;
+            due += on == '1' ? 0.125f : 0f;
+            Check.due("occupancy", x.occupancy(0, 0), due);
+        }
+        Check.due("occupancy at last", x.occupancy(0, 0), 0.5057312f);
     }
 }

@@ -226,7 +226,7 @@ public final class RefusedTest {
     private static String later(BarrierLights x) {
         StringBuilder text = new StringBuilder();
         for (int i = 0; i < 14; i++) {
-            text.append(x.tick(1)).append(Check.lamps(x, 0)).append(' ');
+            text.append(x.tick(1)).append(Check.lamps(x, 0)).append(x.crossing(0, 4)).append(' ');
         }
         text.append(x.preempt(0, 1, true)).append(x.crossing(0, 1)).append(x.tick(5)).append(Check.lamps(x, 0));
         text.append(x.preempt(0, 1, false)).append(x.tick(5)).append(Check.lamps(x, 0));

@@ -4,6 +4,7 @@ public final class ResetTest {
         whatDoesNotFlashIsRefused();
         itStarts();
         aLastingFaultMakesItFlashAgain();
+        theTableStays();
         Check.end();
     }
 
@@ -48,5 +49,17 @@ public final class ResetTest {
         Check.dueText("lamps before the tick", Check.lamps(x, 0), "R-5-R-R-");
         Check.trace("again", x, "3 *-*-*-*-");
         Check.due("why", x.crossing(0, 2), 1);
+    }
+
+    /** What was written since isn't enacted by a reset. */
+    private static void theTableStays() {
+        BarrierLights x = Check.started("0246", 2, 0, 9, 3, 0, 2, 2, 0);
+        x.fault(0, 2, 2);
+        x.tick(1);
+        x.fault(0, 2, 0);
+        Check.write(x, 0, 0, 1, 0, 9, 6, 0, 2, 2, 0);
+        x.put(0, 6, 0, 0);
+        Check.due("reset", x.reset(0), true);
+        Check.trace("by the old table", x, "2 G-R-G-R-", "3 Y-R-Y-R-", "2 R-G-R-G-");
     }
 }

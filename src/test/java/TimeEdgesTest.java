@@ -14,6 +14,8 @@ public final class TimeEdgesTest {
         whatBeginsIsZeroOld();
         aPhaseThatBeginsLosesItsCalls();
         bothRings();
+        againstStaysWhileNothingIsWanted();
+        againstInWalkAndClearToo();
         Check.end();
     }
 
@@ -176,6 +178,30 @@ public final class TimeEdgesTest {
             if (slow % 4 != 3) {
                 Check.lampTrace("phase " + slow, x, slow, "6 Y", "5 R");
             }
+        }
+    }
+
+    /** With an input nothing is wanted: AGAINST, 2 by then, is neither more nor 0 behind it. */
+    private static void againstStaysWhileNothingIsWanted() {
+        for (int with = 0; with <= 8; with += 4) {
+            BarrierLights x = Check.started("02", 1, 9, 5, 3, 0, 0, 0, 0);
+            x.detect(0, 0, true);
+            Check.lampTrace("2 ticks against it", x, 0, "3 G");
+            x.target(0, 0, 0);
+            x.preempt(0, 0, true);
+            Check.lampTrace("with the input", x, 0, with + " G");
+            x.preempt(0, 0, false);
+            Check.lampTrace("behind " + with + " ticks with the input", x, 0, "2 G", "3 Y");
+        }
+    }
+
+    /** The GAP is never 0: at the tick at which CLEAR ends AGAINST is 5, as MAX is. */
+    private static void againstInWalkAndClearToo() {
+        for (int walk = 1; walk <= 4; walk++) {
+            BarrierLights x = Check.started("02", 1, 9, 5, 3, 0, walk, 5 - walk, 0);
+            x.press(0, 0);
+            x.detect(0, 0, true);
+            Check.lampTrace("WALK " + walk + ", CLEAR " + (5 - walk), x, 0, "5 G", "3 Y");
         }
     }
 }
