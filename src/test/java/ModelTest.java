@@ -147,7 +147,7 @@ public final class ModelTest {
         int phase = about(0, 7);
         switch (below(16)) {
             case 0: case 1: case 2: case 3: return detect(crossing, phase, chance(2));
-            case 4: case 5: return same("press(" + crossing + ", " + phase + ")", x.press(crossing, phase), model.press(crossing, phase));
+            case 4: case 5: return press(crossing, phase);
             case 6: return target(crossing, about(0, 1), phase);
             case 7: case 8: return preempt(crossing, about(0, 1), chance(3));
             case 9: return plan(about(0, 3), about(20, 120));
@@ -162,6 +162,10 @@ public final class ModelTest {
     private boolean detect(int crossing, int phase, boolean on) {
         return same("detect(" + crossing + ", " + phase + ", " + on + ")",
             x.detect(crossing, phase, on), model.detect(crossing, phase, on));
+    }
+
+    private boolean press(int crossing, int phase) {
+        return same("press(" + crossing + ", " + phase + ")", x.press(crossing, phase), model.press(crossing, phase));
     }
 
     private boolean target(int crossing, int input, int phase) {
